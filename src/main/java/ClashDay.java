@@ -622,6 +622,15 @@ public final class ClashDay {
             return wordNumber() == which;
         }
 
+        /** Whether another clause comes; false at the end of the text, or where neither it nor a ; stands. */
+        boolean goesOn() {
+            if (kind == ';') {
+                scan();
+                return true;
+            }
+            return kind != END && fail(CANT_STAND);
+        }
+
         /** The fault is at the token; answers false, so that a reader can stop with it. */
         boolean fail(int what) {
             if (fault == 0) {
@@ -657,14 +666,9 @@ public final class ClashDay {
             to.clear();
             // one more than is lawful is begun, so that it can be told as the fault
             for (int i = 0; i <= MOST_CLAUSES; i++) {
-                if (!readClause(to, i) || tape.kind == Tape.END) {
+                if (!readClause(to, i) || !tape.goesOn()) {
                     break;
                 }
-                if (tape.kind != ';') {
-                    tape.fail(Tape.CANT_STAND);
-                    break;
-                }
-                tape.scan();
             }
             return tape.fault;
         }
@@ -755,14 +759,9 @@ public final class ClashDay {
             values = 0;
             // one more than is lawful is begun, so that it can be told as the fault
             for (int i = 0; i <= Rule.MOST_CLAUSES; i++) {
-                if (!readClause(to, i) || tape.kind == Tape.END) {
+                if (!readClause(to, i) || !tape.goesOn()) {
                     break;
                 }
-                if (tape.kind != ';') {
-                    tape.fail(Tape.CANT_STAND);
-                    break;
-                }
-                tape.scan();
             }
             return tape.fault;
         }
