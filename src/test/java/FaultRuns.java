@@ -43,7 +43,8 @@ public final class FaultRuns {
     day("day 1 1" + (char) 0, 7, 0);
     day("day 1 1" + (char) 225, 7, 0);
     day("paper 0 1", 0, 4);
-    day("plan 1", 0, 0);
+    for (String word : new String[] {"papers", "extra", "turn", "plan", "if", "not", "candidates", "dayz"})
+      day(word + " 1", 0, 0);
     day(" taken 0 1;day 1 1", 1, 4);
     day("day 1 1;day 1 1", 8, 4);
     day("day 1 1;if 1", 8, 0);
@@ -81,7 +82,8 @@ public final class FaultRuns {
     rule("plans 1", 0, 0);
     rule("day 1 1", 0, 0);
     rule("plan x", 5, 0);
-    rule("plan paper", 5, 0);
+    for (String word : new String[] {"day", "paper", "taken", "plan", "if", "or", "and", "not", "candidates", "z"})
+      rule("plan " + word, 5, 0);
     rule("plan if", 5, 0);
     rule("plan -1", 5, 0);
     rule("plan 1;", 7, 0);

@@ -122,6 +122,11 @@ public final class PromiseRuns {
     is("11 nobody", x.turn(), -2);
     is("11 turn", x.count(6), 4);
     is("11 an act all the same", x.count(10), 4);
+    x = Due.of("day 1 1");
+    for (int i = 1; i <= 999; i++) x.turn();
+    is("11 turn 999", x.count(6), 999);
+    is("11 in turn 999", x.turn(), -1);
+    is("11 turn 999", x.count(6), 999);
   }
 
   private static int planned(String rule) {
@@ -168,6 +173,15 @@ public final class PromiseRuns {
     is("11 not", planned("plan 1 if not 1=1 or 1=2"), -2);
     is("11 signs", planned("plan 1 if 1<2 and 2<=2 and 2=2 and 2>=2 and 2>1"), 0);
     is("11 signs", planned("plan 1 if 2<2 or 3<=2 or 1=2 or 1>=2 or 2>2"), -2);
+    ClashDay x = Due.of(ROW);
+    Due.rule(x, "plan 1 if turn=0 and busy=0;plan 1 if turn=1 and busy=1 and waiting=2 and candidate=2");
+    x.force(0);
+    is("11 all is free", x.turn(), 0);
+    is("11 one seat is not", x.turn(), 2);
+    x = Due.of("day 9 9;paper 0 1;candidate 1 0 0;taken 5 3;taken 6 9");
+    Due.rule(x, "plan busy-8");
+    x.force(0);
+    is("11 no more than the seats", x.when(0), 1);
     // 99999 to the fourth is above 2 to the 66th, and goes round
     boolean round = 99999L * 99999 * 99999 * 99999 < 0;
     is("11 64 bits", planned("plan 1 if 99999*99999*99999*99999<0"), round ? 0 : -2);
@@ -339,7 +353,10 @@ public final class PromiseRuns {
     is("23 in common", x.first(1, 0, 1), 1);
     is("23 3 ahead of 6", x.first(1, 2, 0), 1);
     is("23 nothing in common", x.first(2, 1, 1), 0);
-    is("23 alike", x.first(1, 1, 0), -1);
+    String third = "6k3A21.";
+    is("22 how long", x.spelt(2, -1), 7);
+    for (int i = 0; i < 7; i++) is("22 spelt " + i, x.spelt(2, i), third.charAt(i));
+    is("23 one alone", x.first(1, 1, 0), -1);
     is("23 what 2", x.first(0, 1, 2), -1);
     is("23 what -1", x.first(0, 1, -1), -1);
     is("23 nobody", x.first(0, 3, 0), -1);
@@ -387,6 +404,18 @@ public final class PromiseRuns {
     is("25 one that comes later has the least", x.chain(1, 2, 3), 0);
     is("25 who was kept keeps", x.chain(1, 3, 3), 1);
     is("24 the first slot", x.watchers(1, 1), 0);
+    x = Due.of("day 1 20;paper 0 3;paper 3 1;candidate 1 0 0;candidate 2 0 0;candidate 1 0 0;candidate 1 0 0");
+    for (int who : new int[] {2, 3, 0, 1}) x.plan(who);
+    // kept are 0 in slots 0 to 5, 1 in 3 to 8, 3 in 0 to 2
+    int[][] chain = {{0, -2, -2, 1}, {0, -2, -2, 1}, {0, -2, -2, 1}, {0, 1, -2, -2}, {0, 1, -2, -2}, {0, 1, -2, -2},
+        {-2, 1, -2, -2}};
+    for (int i = 0; i < 7; i++) for (int c = 0; c < 4; c++) is("25 chain " + c + " " + i, x.chain(1, c, i), chain[i][c]);
+    x = Due.of("day 1 20;paper 0 2;paper 1 1;candidate 1 0 0;candidate 1 0 0;candidate 2 0 0");
+    for (int i = 0; i < 3; i++) x.turn();
+    is("24 two", x.watchers(1, 0), 2);
+    is("24 in slot 1", x.watchers(1, 1), 1);
+    is("24 one", x.watchers(6, 0), 1);
+    is("24 in slot 0", x.watchers(6, 1), 0);
     apart();
   }
 
@@ -622,7 +651,12 @@ public final class PromiseRuns {
     is("39 each time from now on", x.ill(2, 1, 50, 1), 18);
     is("39 each time from now on", x.ill(2, 1, 89, 1), 15);
     is("39 nothing stays", x.count(7), 0);
-    ClashDay y = Due.of("day 1 1");
+    ClashDay y = Due.of("day 1 20;paper 0 1;candidate 1 0 0");
+    Due.rule(y, "plan 0");
+    y.plan(0);
+    y.force(0);
+    is("39 one candidate alone", y.ill(1, 1, 100, 0), 0);
+    y = Due.of("day 1 1");
     is("39 no candidates", y.ill(5, 9, 100, 0), 0);
   }
 
