@@ -74,10 +74,10 @@ public final class ClashDay {
 
     public int day() {
         int fault = dayReader.read(drawnUp);
+        tape.size = 0;
         if (fault != 0) {
             return -2 - fault;
         }
-        tape.size = 0;
         scene.told.copyFrom(drawnUp);
         scene.now.copyFrom(drawnUp);
         scene.notes.size = 0;
@@ -90,10 +90,10 @@ public final class ClashDay {
             return NONE;
         }
         int fault = ruleReader.read(rules[ruleCount]);
+        tape.size = 0;
         if (fault != 0) {
             return -2 - fault;
         }
-        tape.size = 0;
         ruleCount++;
         return ruleCount - 1;
     }
@@ -393,14 +393,12 @@ public final class ClashDay {
 
     public int note(int n, int slot, int seats) {
         Notes notes = scene.notes;
-        if (!scene.now.isDay()) {
-            return NOT_SO;
-        }
         if (n == NONE) {
             notes.size = 0;
             return 0;
         }
-        if (n < 0 || n > LAST_NOTED_TURN || !isSlot(slot) || seats < 0 || seats > MOST_TAKEN || notes.isFull()) {
+        boolean canBeNoted = n >= 0 && n <= LAST_NOTED_TURN && isSlot(slot) && seats >= 0 && seats <= MOST_TAKEN;
+        if (!scene.now.isDay() || !canBeNoted || notes.isFull()) {
             return NOT_SO;
         }
         notes.append(n, slot, seats);

@@ -450,9 +450,10 @@ public final class DocModel {
   }
 
   public int day() {
+    String text = tape;
+    tape = "";
     try {
-      World w = new Descent(tape).day();
-      tape = "";
+      World w = new Descent(text).day();
       told = w;
       now = w.copy();
       notes = new ArrayList<>();
@@ -465,9 +466,10 @@ public final class DocModel {
 
   public int rule() {
     if (laws.size() == 6) return -1;
+    String text = tape;
+    tape = "";
     try {
-      laws.add(new Descent(tape).law());
-      tape = "";
+      laws.add(new Descent(text).law());
       return laws.size() - 1;
     } catch (Fault f) {
       return -2 - f.code;
@@ -784,9 +786,8 @@ public final class DocModel {
   }
 
   public int note(int n, int slot, int seats) {
-    if (none()) return -2;
     if (n == -1) { notes.clear(); return 0; }
-    if (!in(n, 0, 9) || !in(slot, 0, 29) || !in(seats, 0, 9) || notes.size() == 10) return -2;
+    if (none() || !in(n, 0, 9) || !in(slot, 0, 29) || !in(seats, 0, 9) || notes.size() == 10) return -2;
     notes.add(new int[] {n, slot, seats});
     return notes.size();
   }

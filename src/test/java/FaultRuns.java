@@ -149,24 +149,34 @@ public final class FaultRuns {
     rule(twelve + ";", twelve.length() + 1, 0);
   }
 
-  /** What stays where a text is refused. */
+  /** What stays where a text is refused: all but the tape, which is empty behind a FAULT. */
   private static void stays() {
     ClashDay x = Due.of("day 3 7;paper 0 1;candidate 1 0 0");
+    DUE.is("rule", Due.rule(x, "plan 1"), 0);
+    x.force(0);
+    x.seed(9);
+    x.turn();
+    x.note(0, 0, 3);
     DUE.is("a refused day", Due.day(x, "day 1"), -2 - 41);
-    DUE.is("SEATS", x.count(0), 3);
-    DUE.is("HOURS", x.count(1), 7);
-    DUE.is("CANDIDATES", x.count(3), 1);
-    DUE.is("the TAPE", x.count(12), 5);
-    DUE.is("a refused rule", x.rule(), -3);
-    DUE.is("the TAPE", x.count(12), 5);
-    DUE.is("RULES", x.count(4), 0);
-    for (int i = 0; i < 6; i++) {
+    int[] counts = {3, 7, 1, 1, 1, 0, 1, 0, 0, 1, 1, 9, 0};
+    for (int i = 0; i < 13; i++) DUE.is("behind a refused day, count " + i, x.count(i), counts[i]);
+    DUE.is("the text that was told", x.ruled(0), 2);
+    DUE.is("the TAPE from its begin", x.feed(0x706c616e, 0x20310000, 0, 0, 0), 20);
+    x.end(4);
+    DUE.is("a refused rule", x.rule(), -2 - 33);
+    for (int i = 0; i < 13; i++) DUE.is("behind a refused rule, count " + i, x.count(i), counts[i]);
+    DUE.is("an empty TAPE is a refused day", x.day(), -3);
+    DUE.is("an empty TAPE is a refused rule", x.rule(), -3);
+    for (int i = 1; i < 6; i++) {
       DUE.is("rule", Due.rule(x, "plan 1"), i);
       DUE.is("the TAPE", x.count(12), 0);
     }
     DUE.is("a seventh rule", Due.rule(x, "plan 1"), -1);
     DUE.is("the TAPE", x.count(12), 6);
+    DUE.is("a seventh rule with a FAULT", Due.rule(x, "plan"), -1);
+    DUE.is("the TAPE", x.count(12), 4);
     DUE.is("RULES", x.count(4), 6);
+    DUE.is("undo", x.undo(), 0);
   }
 
   public static void main(String[] args) {

@@ -505,6 +505,9 @@ public final class PromiseRuns {
     is("31 without a day", none.extras(0, 0), -1);
     is("32 without a day", none.resting(0), -1);
     is("35 without a day", none.note(0, 0, 0), -2);
+    is("35 none then, without a day", none.note(-1, 0, 0), 0);
+    is("35 none then, whatever the rest", none.note(-1, MIN, MAX), 0);
+    is("35 none", none.count(9), 0);
     is("36 without a day", none.ruled(0), -3);
     is("37 without a day", none.look(0, 0), -1);
     ClashDay x = Due.of(ROW);
