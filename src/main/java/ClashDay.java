@@ -1508,9 +1508,9 @@ public final class ClashDay {
             }
         }
 
-        /** The last TURN of which something is noted; 0 without notes. */
+        /** The last TURN of which something is noted; NONE without notes. */
         int lastTurn() {
-            int last = 0;
+            int last = NONE;
             for (int i = 0; i < size; i++) {
                 last = Math.max(last, turn[i]);
             }
@@ -1756,6 +1756,7 @@ public final class ClashDay {
             return many;
         }
 
+        /** How it is when so many TURNS more have been made. */
         Board behind(Board from, Rule rule, int many) {
             trial.copyFrom(from);
             for (int i = 0; i < many; i++) {
@@ -1764,11 +1765,13 @@ public final class ClashDay {
             return trial;
         }
 
+        /** The number of the TURN in which one is planned; NOT_SO if it is none of the next ones. */
         int turnOf(Board now, Rule rule, int who) {
             trial.copyFrom(now);
-            for (int i = 1; i <= TURNS_AHEAD; i++) {
+            for (int i = 0; i < TURNS_AHEAD; i++) {
+                int turn = trial.turn;
                 if (turns.step(trial, rule) == who) {
-                    return i;
+                    return turn;
                 }
             }
             return NOT_SO;
@@ -1811,13 +1814,11 @@ public final class ClashDay {
             return set;
         }
 
-        /** Goes on from where the trial stands. */
+        /** Goes on from where the trial stands; behind TURN 0 is when one has been made. */
         private boolean isAsNoted(Notes notes, Rule rule) {
             int last = notes.lastTurn();
             for (int i = 0; i <= last; i++) {
-                if (i > 0) {
-                    turns.step(trial, rule);
-                }
+                turns.step(trial, rule);
                 if (!notes.agreeWith(trial, i)) {
                     return false;
                 }
@@ -1825,10 +1826,11 @@ public final class ClashDay {
             return true;
         }
 
-        void foresee(Board told, Rule[] rules, int set, int many) {
+        /** The free seats behind a TURN, by each rule of the set. */
+        void foresee(Board told, Rule[] rules, int set, int turn) {
             for (int i = 0; i < foreseen.length; i++) {
                 if ((set >> i & 1) == 1) {
-                    behind(told, i == 0 || i > rules.length ? null : rules[i - 1], many);
+                    behind(told, i == 0 || i > rules.length ? null : rules[i - 1], turn + 1);
                     for (int slot = 0; slot < SLOTS; slot++) {
                         foreseen[i][slot] = trial.freeSeats(slot);
                     }

@@ -197,7 +197,7 @@ public final class CompareRuns {
       for (int i = call("count", 10); i > 0; i--) call("undo");
       int from = call("count", 6);
       if (from == 0) {
-        for (int i = 0; i < n; i++) call("turn");
+        for (int i = 0; i <= n; i++) call("turn");
         int seats = call("free", slot);
         call("back", 3);
         call("note", n, slot, Math.max(0, seats));

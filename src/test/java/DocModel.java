@@ -702,17 +702,17 @@ public final class DocModel {
   public int when(int c) {
     if (!waits(c)) return -1;
     World w = now.copy();
-    for (int i = 1; i <= 20; i++) {
+    for (int t = now.turn; t < now.turn + 20; t++) {
       w.step(law());
-      if (w.people.get(c).begins != null) return i;
+      if (w.people.get(c).begins != null) return t;
     }
     return -2;
   }
 
   private boolean asNoted(World w, Law law) {
     for (int i = 0; i <= 9; i++) {
-      for (int[] n : notes) if (n[0] == i && w.free(n[1]) != n[2]) return false;
       w.step(law);
+      for (int[] n : notes) if (n[0] == i && w.free(n[1]) != n[2]) return false;
     }
     return true;
   }
@@ -811,7 +811,7 @@ public final class DocModel {
     List<World> worlds = new ArrayList<>();
     for (int r : some) {
       World w = told.copy();
-      for (int i = 0; i < n; i++) w.step(r < 0 ? null : laws.get(r));
+      do w.step(r < 0 ? null : laws.get(r)); while (w.turn <= n);
       worlds.add(w);
     }
     int slot = -1, fewest = 99;

@@ -156,7 +156,7 @@ public final class FaultRuns {
     x.force(0);
     x.seed(9);
     x.turn();
-    x.note(0, 0, 3);
+    x.note(0, 0, 2);
     DUE.is("a refused day", Due.day(x, "day 1"), -2 - 41);
     int[] counts = {3, 7, 1, 1, 1, 0, 1, 0, 0, 1, 1, 9, 0};
     for (int i = 0; i < 13; i++) DUE.is("behind a refused day, count " + i, x.count(i), counts[i]);

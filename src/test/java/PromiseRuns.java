@@ -181,7 +181,7 @@ public final class PromiseRuns {
     x = Due.of("day 9 9;paper 0 1;candidate 1 0 0;taken 5 3;taken 6 9");
     Due.rule(x, "plan busy-8");
     x.force(0);
-    is("11 no more than the seats", x.when(0), 1);
+    is("11 no more than the seats", x.when(0), 0);
     // 99999 to the fourth is above 2 to the 66th, and goes round
     boolean round = 99999L * 99999 * 99999 * 99999 < 0;
     is("11 64 bits", planned("plan 1 if 99999*99999*99999*99999<0"), round ? 0 : -2);
@@ -486,18 +486,36 @@ public final class PromiseRuns {
     is("29 ahead -1", x.ahead(-1, 0), -1);
     is("29 what 3", x.ahead(1, 3), -1);
     is("29 nothing changes", x.count(6), 0);
-    is("30 when", x.when(0), 1);
-    is("30 when", x.when(2), 3);
+    is("30 when, in turn 0", x.when(0), 0);
+    is("30 when", x.when(1), 1);
+    is("30 when", x.when(2), 2);
     is("30 nobody", x.when(3), -1);
     x.turn();
-    is("30 when, this turn the first", x.when(2), 2);
+    is("30 when, this turn the first", x.when(1), 1);
+    is("30 a turn is told by its number", x.when(2), 2);
     is("30 planned", x.when(0), -1);
     Due.rule(x, "plan 1 if turn > 19 and candidate = 1;plan 1 if turn > 20");
     x.force(0);
-    is("30 in turn 20", x.when(1), 20);
+    is("30 in turn 20, the last of 20", x.when(1), 20);
     is("30 in none of 20", x.when(2), -2);
     is("29 by the rule in force", x.ahead(19, 0), 1);
     is("29 by the rule in force", x.ahead(20, 0), 2);
+    x.turn();
+    is("30 of 20 from this one on", x.when(2), 21);
+    is("30 nothing changes", x.count(6), 2);
+    whenBeyondHand();
+  }
+
+  /** By hand TURN is 999 at most; what would be goes on all the same. */
+  private static void whenBeyondHand() {
+    ClashDay x = Due.of(ROW);
+    Due.rule(x, "plan 0");
+    x.force(0);
+    for (int i = 0; i < 999; i++) x.turn();
+    is("30 in none of 20", x.when(0), -2);
+    x.force(-1);
+    is("30 in turn 999", x.when(0), 999);
+    is("30 behind turn 999", x.when(2), 1001);
   }
 
   private static void notes() {
@@ -514,12 +532,12 @@ public final class PromiseRuns {
     is("31 no notes", x.extras(0, 0), 6);
     is("31 no notes", x.extras(0, 1), 0);
     is("32 no notes", x.resting(0), 15);
-    is("35 note", x.note(1, 3, 0), 1);
+    is("35 note", x.note(0, 3, 0), 1);
     is("31 four slots or more", x.extras(0, 0), 5);
     is("31 the least", x.extras(0, 1), 20);
     is("31 of another one", x.extras(1, 0), 0);
     is("31 of another one", x.extras(1, 1), -2);
-    is("35 note", x.note(1, 4, 1), 2);
+    is("35 note", x.note(0, 4, 1), 2);
     is("31 four slots", x.extras(0, 0), 1);
     is("31 four slots", x.extras(0, 1), 20);
     x.take(3, 1);
@@ -539,11 +557,37 @@ public final class PromiseRuns {
     is("35 none then", x.note(-1, 99, 99), 0);
     is("35 none then", x.count(9), 0);
     x = Due.of("day 1 20;paper 0 1;paper 0 1;candidate 3 0 0");
-    x.note(1, 3, 0);
+    x.note(0, 3, 0);
     is("32 rest 2", x.resting(0), 4);
     x.note(-1, 0, 0);
-    x.note(1, 2, 1);
+    x.note(0, 2, 1);
     is("32 not rest 1", x.resting(0), 13);
+    notesBehindTurns();
+  }
+
+  /** TURN n plans candidate n, in the three slots from 3 * n on. */
+  private static void notesBehindTurns() {
+    for (int n = 0; n < 3; n++) {
+      ClashDay x = Due.of(ROW);
+      x.note(n, 3 * n, 0);
+      x.note(n, 3 * n + 3, 1);
+      is("35 behind turn " + n, x.resting(0), 15);
+      is("35 behind turn " + n + ", as told alone", x.extras(n, 0), 1);
+      is("36 behind turn " + n, x.ruled(1), -1);
+      x.note(n, 3 * n + 2, 1);
+      is("35 not ahead of turn " + n, x.resting(0), 0);
+      is("35 not ahead of turn " + n, x.extras(n, 1), -2);
+      is("36 not ahead of turn " + n, x.ruled(0), 0);
+    }
+    ClashDay x = Due.of("day 1 20;paper 0 3;candidate 1 0 0");
+    Due.rule(x, "plan 1 if turn = 9");
+    x.force(0);
+    x.note(8, 0, 1);
+    x.note(9, 0, 0);
+    is("35 behind turn 9", x.resting(0), 15);
+    is("35 behind turn 9", x.extras(0, 0), 6);
+    is("36 behind turn 9", x.ruled(1), 0);
+    is("36 behind turn 9", x.ruled(0), 1);
   }
 
   private static void ruled() {
@@ -553,25 +597,26 @@ public final class PromiseRuns {
     Due.rule(x, "plan candidate");
     Due.rule(x, "plan 0");
     is("36 all", x.ruled(0), 3);
-    is("37 nothing parts them", x.look(0, 0), 0);
-    is("37 nothing parts them", x.look(0, 1), 3);
     // by none and by rule 0 one sits in slots 0 to 2
-    is("37 slot 0", x.look(1, 0), 0);
-    is("37 two alike", x.look(1, 1), 2);
-    x.note(1, 0, 0);
+    is("37 slot 0", x.look(0, 0), 0);
+    is("37 two alike", x.look(0, 1), 2);
+    x.note(0, 0, 0);
     is("36 two", x.ruled(0), 2);
+    is("37 nothing parts them", x.look(0, 0), 0);
+    is("37 nothing parts them", x.look(0, 1), 2);
+    is("37 nothing parts them yet", x.look(1, 1), 2);
     // the third one is planned without a rule alone
-    is("37 slot 6", x.look(3, 0), 6);
-    is("37 one alike", x.look(3, 1), 1);
+    is("37 slot 6", x.look(2, 0), 6);
+    is("37 one alike", x.look(2, 1), 1);
     is("37 n 10", x.look(10, 0), -1);
     is("37 n -1", x.look(-1, 0), -1);
     is("37 what 2", x.look(3, 2), -1);
-    x.note(3, 6, 1);
+    x.note(2, 6, 1);
     is("36 one", x.ruled(0), 1);
     is("36 rule 0", x.ruled(1), 0);
     is("37 it alone", x.look(9, 0), 0);
     is("37 it alone", x.look(9, 1), 1);
-    x.note(0, 0, 0);
+    x.note(0, 0, 1);
     is("36 none such", x.ruled(0), 0);
     is("36 none such", x.ruled(1), -2);
     is("37 no rule is so", x.look(3, 0), -2);
@@ -579,6 +624,13 @@ public final class PromiseRuns {
     is("36 what 2", x.ruled(2), -3);
     is("36 what -1", x.ruled(-1), -3);
     is("36 nothing changes", x.count(7), 7);
+    x = Due.of("day 1 20;paper 0 3;candidate 1 0 0");
+    Due.rule(x, "plan 1 if turn = 9");
+    Due.rule(x, "plan 1 if turn = 10");
+    is("37 none alone has planned behind turn 8", x.look(8, 1), 2);
+    x.note(8, 0, 1);
+    is("37 turn 9 parts them", x.look(9, 0), 0);
+    is("37 turn 9 parts them", x.look(9, 1), 1);
   }
 
   private static void promises33And34() {
