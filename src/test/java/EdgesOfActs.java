@@ -286,6 +286,7 @@ final class EdgesOfActs {
   static void p11_turn_word_busy_from_0_to_the_seats() {
     String one = ";paper 0 1;candidate 1 0 0";
     is("0", byRule("day 9 20" + one, "plan 1 if busy=0").turn(), 0);
+    is("of the first slot", byRule("day 9 20" + one + ";taken 0 4", "plan 1 if busy=4").turn(), 0);
     is("of the last slot", byRule("day 9 20" + one + ";taken 29 4", "plan 1 if busy=4").turn(), 0);
     is("all", byRule("day 3 20" + one + ";taken 29 3", "plan 1 if busy=3").turn(), 0);
     is("no more than all", byRule("day 3 20" + one + ";taken 29 9", "plan 1 if busy=3").turn(), 0);
@@ -304,7 +305,17 @@ final class EdgesOfActs {
     for (String[] d : due) {
       planned("plan 1 if " + d[0], 0);
       planned("plan 1 if " + d[1], -2);
+      planned("plan 1 if not " + d[0], -2);
+      planned("plan 1 if not " + d[1], 0);
+      planned("plan 1 if not not " + d[0] + " and " + d[0], 0);
+      planned("plan 1 if " + d[1] + " or not not " + d[1], -2);
     }
+  }
+
+  static void p11_turn_numbers_0_and_99999() {
+    planned("plan 1 if 99999=99998+1 and 00000=0", 0);
+    planned("plan 99999-99998", 0);
+    planned("plan 99999-99999", -2);
   }
 
   static void p11_turn_what_binds_closer() {
@@ -424,6 +435,11 @@ final class EdgesOfActs {
   static void p12_plan_a_night_is_rest_enough() {
     // END 18, and slot 20 is less than 3 behind it, but of another day
     begins("day 1 4;paper 14 4;paper 14 4;candidate 3 0 3", 24, 14, 20);
+  }
+
+  static void p12_plan_behind_an_end_with_the_first_day() {
+    // END 20 is behind the last slot of the first day; the night is between
+    for (int rest = 0; rest <= 3; rest++) begins("day 1 20;paper 15 5;paper 15 5;candidate 3 0 " + rest, 25, 15, 20);
   }
 
   static void p12_plan_rest_on_the_second_day() {
@@ -741,6 +757,19 @@ final class EdgesOfActs {
     is("waits", x.candidate(0, 3), 1);
   }
 
+  static void p16_undo_where_each_paper_began() {
+    ClashDay x = Due.of(ROW);
+    x.plan(0);
+    x.drop(0);
+    x.plan(1);
+    x.plan(0);
+    is("begins", x.begins(0, 0), 3);
+    for (int i = 3; i > 0; i--) is("undo", x.undo(), i);
+    is("where it began", x.begins(0, 0), 0);
+    is("line", x.line(0, 2), 'A');
+    is("line", x.line(0, 3), '.');
+  }
+
   static void p16_undo_a_delay() {
     ClashDay x = Due.of(ROW);
     for (int c = 0; c < 3; c++) x.plan(c);
@@ -767,7 +796,8 @@ final class EdgesOfActs {
       is("count 10", x.count(10), most);
       for (int i = most - 1; i >= 0; i--) {
         is("undo", x.undo(), i);
-        is("the last first", x.free(acts - most + i), 9);
+        int stay = acts - most + i;
+        for (int s = 0; s < 30; s++) is("the last first, slot " + s, x.free(s), s < stay ? 8 : 9);
       }
       is("no more", x.undo(), -1);
       for (int i = 0; i < acts - most; i++) is("the oldest stays", x.free(i), 8);

@@ -160,6 +160,14 @@ final class EdgesOfAnswers {
     is("the set", x.clash(0, 1), 16);
   }
 
+  static void p20_clash_the_first_and_the_last_paper_alone() {
+    ClashDay x = Due.of("day 9 20;paper 9 6;paper 0 1;paper 0 1;paper 0 1;paper 9 6;candidate 31 100 0;candidate 30 100 0");
+    is("how many", x.clash(0, 0), 1);
+    is("paper 0", x.clash(0, 1), 1);
+    is("how many", x.clash(1, 0), 1);
+    is("paper 4", x.clash(1, 1), 16);
+  }
+
   static void p20_clash_there_is_a_plan() {
     ClashDay x = Due.of(ROW);
     is("what 0", x.clash(0, 0), -2);
@@ -510,6 +518,11 @@ final class EdgesOfAnswers {
     best(x, 4, 6, 0, 1, 2, 3);
   }
 
+  static void p27_best_of_the_four_of_least_numbers_alone() {
+    // candidate 4 would be kept in no slot, but is the fifth that waits
+    best(Due.of("day 1 20;paper 0 1;paper 15 1" + ";candidate 1 0 0".repeat(4) + ";candidate 2 0 0"), 4, 6, 0, 1, 2, 3);
+  }
+
   static void p27_best_none_of_them_can_be() {
     best(Due.of("day 1 20;paper 9 6;candidate 1 100 0;candidate 1 100 0"), 0, 0, 0, 1, -1, -1);
   }
@@ -850,6 +863,18 @@ final class EdgesOfAnswers {
     rests("day 9 1;paper 0 2;paper 0 2;paper 0 2;paper 15 6;candidate 7 0 0;candidate 8 100 0", 12, 0, 0);
   }
 
+  static void p33_rests_0_for_an_end_of_30_is_as_much_as_for_none() {
+    // with REST 0 the END is 30, with more they can't be
+    rests("day 1 1;paper 0 5;paper 0 5;candidate 3 0 0;candidate 3 0 0", 16, 0, 0);
+  }
+
+  static void p33_rests_none_at_all_is_best() {
+    // four papers: a slot of REST costs three and gains two
+    rests("day 9 20" + ";paper 0 1".repeat(4) + ";candidate 15 0 3;candidate 15 0 3", 1, 0, 0);
+    rests("day 9 20" + ";paper 0 1".repeat(4) + ";candidate 15 0 3;candidate 1 0 0", 1, 0, 3);
+    rests("day 9 20" + ";paper 0 1".repeat(4) + ";candidate 1 0 0;candidate 15 0 3", 1, 3, 0);
+  }
+
   static void p33_rests_first_by_the_first_one() {
     // three papers: a slot of REST costs two and gains two
     rests("day 9 20;paper 0 1;paper 0 1;paper 0 1;candidate 7 0 3;candidate 7 0 3", 16, 0, 0);
@@ -894,6 +919,11 @@ final class EdgesOfAnswers {
     x.plan(0);
     for (int much : new int[] {0, 1, 9998, 9999}) is("all", x.pence(much, 0), much);
     for (int much : new int[] {-1, 10000, MIN, MAX}) Edge.sameInAll("pence " + much, y -> y.pence(much, 0), -1);
+  }
+
+  static void p34_pence_of_one_slot_alone() {
+    ClashDay x = planned("day 1 20;paper 0 1;candidate 1 0 0");
+    for (int much : new int[] {0, 1, 9999}) is("all", x.pence(much, 0), much);
   }
 
   static void p34_pence_of_those_who_wait() {
@@ -1120,6 +1150,25 @@ final class EdgesOfAnswers {
     is("all seven", x.look(9, 1), 7);
   }
 
+  static void p37_look_the_sixth_rule_too() {
+    ClashDay x = Due.of(ROW);
+    for (int i = 0; i < 5; i++) Due.rule(x, "plan 1");
+    Due.rule(x, "plan 0");
+    is("slot 0", x.look(0, 0), 0);
+    is("six of seven are alike", x.look(0, 1), 6);
+  }
+
+  static void p37_look_each_slot_that_can_be() {
+    for (int s = 0; s < 20; s++) {
+      StringBuilder day = new StringBuilder("day 1 20;paper " + Math.min(s, 15) + " 1;candidate 1 0 0");
+      for (int t = 15; t < s; t++) day.append(";taken").append(t).append(" 1");
+      ClashDay x = Due.of(day.toString());
+      Due.rule(x, "plan 0");
+      is("slot " + s, x.look(0, 0), s);
+      is("one", x.look(0, 1), 1);
+    }
+  }
+
   static void p37_look_the_last_slot() {
     StringBuilder day = new StringBuilder("day 1 20;paper 15 1;candidate 1 0 0");
     for (int s = 15; s < 29; s++) day.append(";taken").append(s).append(" 1");
@@ -1246,6 +1295,15 @@ final class EdgesOfAnswers {
 
   static void p39_ill_without_candidates() {
     for (int w = 0; w < 2; w++) is("what " + w, Due.of("day 1 1").ill(5, 9, 100, w), 0);
+  }
+
+  static void p39_ill_one_candidate_alone() {
+    ClashDay x = planned("day 1 20;paper 0 1;candidate 1 0 0");
+    Due.rule(x, "plan 0");
+    x.force(0);
+    is("well", x.ill(1, 1, 0, 0), 1);
+    is("ill", x.ill(1, 1, 100, 0), 0);
+    is("ill, five times", x.ill(5, 9, 100, 0), 0);
   }
 
   static void p39_ill_of_all_candidates_who_is_planned() {
@@ -1419,6 +1477,55 @@ final class EdgesOfAnswers {
       is("who waits", x.count(7), 15);
       x.delay(0, 1);
     }
+  }
+
+  static void p42_back_with_the_notes_as_they_were() {
+    ClashDay x = Due.of("day 1 20;paper 0 1;paper 0 1;candidate 3 0 0");
+    x.note(0, 4, 0);
+    x.image(0);
+    x.note(-1, 0, 0);
+    is("other notes", x.note(1, 2, 1), 1);
+    is("not REST 1", x.resting(0), 13);
+    x.image(1);
+    x.note(-1, 0, 0);
+    x.back(0);
+    is("REST 3", x.resting(0), 8);
+    x.back(1);
+    is("not REST 1", x.resting(0), 13);
+    x.back(0);
+    x.note(0, 4, 1);
+    is("none", x.resting(0), 0);
+    is("back", x.back(0), 0);
+    is("count 9", x.count(9), 1);
+    is("REST 3", x.resting(0), 8);
+  }
+
+  static void p42_back_with_the_turns_that_were_noted() {
+    ClashDay x = Due.of("day 1 20;paper 0 1;candidate 1 0 0");
+    Due.rule(x, "plan 1 if turn=1");
+    x.force(0);
+    x.note(0, 0, 1);
+    x.image(0);
+    is("planned in turn 1", x.resting(0), 15);
+    x.note(-1, 0, 0);
+    x.note(1, 0, 1);
+    is("behind turn 1 it is not free", x.resting(0), 0);
+    x.back(0);
+    is("behind turn 0 it is", x.resting(0), 15);
+  }
+
+  static void p42_back_where_each_paper_began() {
+    ClashDay x = Due.of(ROW);
+    x.plan(0);
+    x.image(0);
+    x.drop(0);
+    x.plan(1);
+    x.plan(0);
+    is("begins", x.begins(0, 0), 3);
+    x.back(0);
+    is("where it began", x.begins(0, 0), 0);
+    is("line", x.line(0, 2), 'A');
+    is("waits", x.candidate(1, 3), 1);
   }
 
   static void p42_back_with_the_text_as_it_was() {

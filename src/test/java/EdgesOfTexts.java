@@ -213,6 +213,23 @@ final class EdgesOfTexts {
     }
   }
 
+  static void p04_day_nothing_is_left_of_a_text_with_a_fault() {
+    ClashDay x = new ClashDay();
+    is("a fault", Due.day(x, "day 9 9;taken 0 9;taken 5 9;taken 29 9;paper 1 1;candidate 1 1 1;"), fault(65, 0));
+    is("no day", x.free(5), -1);
+    is("day", Due.day(x, "day 8 8"), 0);
+    is("no papers", x.count(2), 0);
+    for (int s = 0; s < 30; s++) is("none taken", x.free(s), 8);
+  }
+
+  static void p04_day_nothing_is_left_of_the_text_ahead() {
+    ClashDay x = Due.of("day 9 9;taken 0 9;taken 29 9;paper 1 1;candidate 1 1 1");
+    is("day", Due.day(x, "day 8 8;paper 2 2;candidate 1 2 2"), 1);
+    for (int s = 0; s < 30; s++) is("none taken", x.free(s), 8);
+    is("papers", x.count(2), 1);
+    is("START", x.paper(0, 0), 2);
+  }
+
   static void p04_day_takes_the_place_of_the_one_there_was() {
     ClashDay x = Edge.full();
     is("day", Due.day(x, "day 3 4"), 0);
@@ -449,6 +466,11 @@ final class EdgesOfTexts {
     dayFault("daY 1 1", 0, 0);
     dayFault("day 1 1;dayz 1", 8, 0);
     dayFault("day 1 1;takenx", 8, 0);
+    for (String word : new String[] {"day", "paper", "candidate", "taken"}) {
+      dayFault("z" + word.substring(1), 0, 0);
+      dayFault(word.substring(1), 0, 0);
+      dayFault("day 1 1;" + word.substring(0, word.length() - 1) + "z 1 1", 8, 0);
+    }
     dayFault("day`1 1", 3, 0);
     dayFault("day{1 1", 3, 0);
     dayFault("day 1 1/", 7, 0);
@@ -529,6 +551,34 @@ final class EdgesOfTexts {
     }, "rule", x -> Due.rule(x, "plan 1 if [turn = 1"), fault(19, 0));
   }
 
+  static void p05_rule_each_text_is_counted_anew() {
+    ClashDay x = new ClashDay();
+    String sixty = "plan 1" + "+1".repeat(59), twelve = "plan 1" + ";plan 1".repeat(11);
+    is("60 values", Due.rule(x, sixty), 0);
+    is("60 values again", Due.rule(x, sixty), 1);
+    is("a fault", Due.rule(x, sixty + "+1"), fault(sixty.length() + 1, 3));
+    is("60 values again", Due.rule(x, sixty), 2);
+    is("12 clauses", Due.rule(x, twelve), 3);
+    is("a fault", Due.rule(x, twelve + ";plan 1"), fault(twelve.length() + 1, 4));
+    is("12 clauses again", Due.rule(x, twelve), 4);
+  }
+
+  static void p05_rule_nothing_is_left_of_a_text_with_a_fault() {
+    ClashDay x = Due.of("day 1 20;paper 0 1;candidate 1 0 0;candidate 1 0 0");
+    is("a fault", Due.rule(x, "plan 9 if candidate=1;plan 7;"), fault(29, 0));
+    is("rule", Due.rule(x, "plan 1"), 0);
+    x.force(0);
+    is("of two alike the least", x.when(0), 0);
+    is("a fault", Due.rule(x, "plan 1 if not 1=1;plan"), fault(22, 0));
+    is("rule", Due.rule(x, "plan 1 if 1=1"), 1);
+    x.force(1);
+    is("the test holds", x.when(0), 0);
+    is("a fault", Due.rule(x, "plan 0;"), fault(7, 0));
+    is("rule", Due.rule(x, "plan 1"), 2);
+    x.force(2);
+    is("above 0", x.when(0), 0);
+  }
+
   static void p05_rule_is_not_in_force_by_itself() {
     ClashDay x = new ClashDay();
     Due.rule(x, "plan 1");
@@ -583,6 +633,8 @@ final class EdgesOfTexts {
       rule("plan 1 if " + word + " = " + word);
       ruleFault("plan " + word + "s", 5, 0);
       ruleFault("plan " + word.substring(0, word.length() - 1), 5, 0);
+      ruleFault("plan " + word.substring(1), 5, 0);
+      ruleFault("plan z" + word.substring(1), 5, 0);
     }
   }
 
@@ -610,6 +662,9 @@ final class EdgesOfTexts {
     ruleFault("plan 1 if 1 <=", 14, 0);
     ruleFault("plan 1 if < 1", 10, 0);
     ruleFault("plan 1 if 1 < 2 < 3", 16, 0);
+    for (String word : new String[] {"kept", "and", "or", "not", "if", "plan", "is"})
+      ruleFault("plan 1 if 1 " + word + " 2", 12, 0);
+    ruleFault("plan 1 if 1 2", 12, 0);
   }
 
   static void p05_rule_each_sign_of_a_sum() {
