@@ -78,8 +78,14 @@ public final class FaceRuns {
     Matcher m = Pattern.compile("\\b(Integer|Long|Math|System|Arrays|String|Object)\\.(\\w+)").matcher(code);
     while (m.find()) must(library.contains(m.group()), m.group() + " is of the library that is used");
     int from = 0, line = 0;
+    boolean inConstructor = false;
     for (String l : text.split("\n")) {
       line++;
+      if (l.equals("    public ClashDay() {")) inConstructor = true;
+      if (l.equals("    }")) inConstructor = false;
+      boolean makes = Pattern.compile("\\bnew\\b|\\.clone\\(|copyOf").matcher(l).find();
+      boolean isField = l.matches(" {4,8}(private )?(static )?final [\\w\\[\\]]+ \\w+ = new .*;");
+      must(!makes || inConstructor || isField || l.matches("\\s*(//|/?\\*).*"), "line " + line + " makes no object in a call");
       if (l.matches(" {4,8}(public|private|static|int|long|void|boolean|char|Board|[A-Z]\\w*\\().*\\{")) from = line;
       if (l.matches(" {4}\\}| {8}\\}")) must(line - from <= 60, "the method that ends at line " + line + " is short");
     }
